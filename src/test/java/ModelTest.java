@@ -7,12 +7,9 @@ import java.util.Map;
  * Long runs of calls, good and wrong ones mixed, beside a model that is written in another
  * manner: every answer, and every exception by its exact class, is compared.
  */
-public final class ModelTest {
+public final class ModelTest extends Theatres {
     private static final int RUNS = 600;
     private static final int CALLS = 512;
-    private static final Class<?> ARGUMENT = IllegalArgumentException.class;
-    private static final Class<?> STATE = IllegalStateException.class;
-    private static final Class<?> INDEX = IndexOutOfBoundsException.class;
 
     /** What hangs where: hook to number, hook to weight, hooks with tickets. */
     private static final class Model {

@@ -1,74 +1,11 @@
 /** Each promise of the document: ordinary inputs, the edges that it names, wrong inputs. */
-public final class PromisesTest {
-    private static final Class<?> ARGUMENT = IllegalArgumentException.class;
-    private static final Class<?> STATE = IllegalStateException.class;
-    private static final Class<?> INDEX = IndexOutOfBoundsException.class;
-
+public final class PromisesTest extends Theatres {
     private static final int[] NO_NUMBERS = {-1, 10000, Integer.MIN_VALUE, Integer.MAX_VALUE};
     private static final int[] NO_COUNTS = {2, 41, 0, -3, Integer.MIN_VALUE, Integer.MAX_VALUE};
     private static final int[] NO_WAYS = {-1, 3, Integer.MIN_VALUE, Integer.MAX_VALUE};
 
     private static void due(String what, Due.Call call, Object answer) {
         Due.answer(what, Due.outcome(call), answer);
-    }
-
-    /** A theatre with so many hooks and this way, in which these coats were hung, of weights 1, 2, .. */
-    private static CoatHooks with(int hooks, int way, int... numbers) {
-        CoatHooks x = new CoatHooks();
-        x.rehang(hooks, way);
-        for (int i = 0; i < numbers.length; i++) {
-            x.hang(numbers[i], i + 1);
-        }
-        return x;
-    }
-
-    private static CoatHooks take(CoatHooks x, int... numbers) {
-        for (int number : numbers) {
-            x.take(number);
-        }
-        return x;
-    }
-
-    private static int[] upTo(int count) {
-        int[] all = new int[count];
-        for (int i = 0; i < count; i++) {
-            all[i] = i;
-        }
-        return all;
-    }
-
-    /**
-     * By triangles an usher looks for 0, 8 and 16 on the hooks 0, 1, 3, ..; the coat 16 hangs on 3,
-     * but the ticket on 1, which 8 has left, is swept: the usher stops there, and does not find it.
-     */
-    private static CoatHooks hidden() {
-        CoatHooks x = take(with(8, 1, 0, 8, 16), 8);
-        x.sweep();
-        return x;
-    }
-
-    private static int[] coatsOf(CoatHooks x) {
-        int[] all = new int[x.hooks()];
-        for (int hook = 0; hook < all.length; hook++) {
-            all[hook] = x.coatAt(hook);
-        }
-        return all;
-    }
-
-    private static int[] statesOf(CoatHooks x) {
-        int[] all = new int[x.hooks()];
-        for (int hook = 0; hook < all.length; hook++) {
-            all[hook] = x.stateOf(hook);
-        }
-        return all;
-    }
-
-    private static int[] rowsOf(CoatHooks x) {
-        int[] all = new int[x.hooks()];
-        for (int hook = 0; hook < all.length; hook++) {
-            all[hook] = x.rowAt(hook);
-        }
-        return all;
     }
 
     private static void p1NewObject() {
